@@ -147,13 +147,7 @@ public final class ConstantSpread {
 
     public int kind(int function, int place, int register)
             throws IllegalStateException, IndexOutOfBoundsException {
-        if (!analysed) {
-            throw new IllegalStateException("nothing is known");
-        }
-        if (!isAsked(function, place, register)) {
-            throw new IndexOutOfBoundsException("no such function, place or register");
-        }
-        int at = after.placeOf(function, place);
+        int at = askedPlace(function, place, register);
         if (!known.comeTo[at]) {
             return 0;
         }
@@ -162,13 +156,7 @@ public final class ConstantSpread {
 
     public int number(int function, int place, int register)
             throws IllegalStateException, IndexOutOfBoundsException {
-        if (!analysed) {
-            throw new IllegalStateException("nothing is known");
-        }
-        if (!isAsked(function, place, register)) {
-            throw new IndexOutOfBoundsException("no such function, place or register");
-        }
-        int at = after.placeOf(function, place);
+        int at = askedPlace(function, place, register);
         return known.comeTo[at] && known.hasNumber(at, register) ? known.numberOf(at, register) : 0;
     }
 
@@ -237,9 +225,16 @@ public final class ConstantSpread {
         return tally.latestValues[function * MOST_PARAMETERS + parameter];
     }
 
-    private boolean isAsked(int function, int place, int register) {
-        return after.hasFunction(function) && place >= 0 && place < PLACES
-                && register >= 0 && register < REGISTERS;
+    private int askedPlace(int function, int place, int register)
+            throws IllegalStateException, IndexOutOfBoundsException {
+        if (!analysed) {
+            throw new IllegalStateException("nothing is known");
+        }
+        if (!after.hasFunction(function) || place < 0 || place >= PLACES
+                || register < 0 || register >= REGISTERS) {
+            throw new IndexOutOfBoundsException("no such function, place or register");
+        }
+        return after.placeOf(function, place);
     }
 
     private boolean isFitX(int operation, int x) {
