@@ -71,7 +71,7 @@ public final class ConstantSpread {
         if (parameters < 0 || parameters > MOST_PARAMETERS) {
             throw new IllegalArgumentException("a function has 0 to 3 parameters");
         }
-        if (before.functionCount == MAIN && parameters != 0) {
+        if (!before.hasFunction(MAIN) && parameters != 0) {
             throw new IllegalArgumentException("main has no parameters");
         }
         if (before.functionCount >= MOST_FUNCTIONS) {
