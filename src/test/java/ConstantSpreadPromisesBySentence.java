@@ -273,11 +273,10 @@ public final class ConstantSpreadPromisesBySentence extends SentenceTest {
         for (int d = 0; d <= 5; d++) {
             for (int operation = 13; operation <= 15; operation++) {
                 int word = w(operation, d);
-                threw("word " + word, IAE, () -> s.code(0, word, 0, 7, 7, 7));
+                refused(s, "word " + word, IAE, () -> s.code(0, word, 0, 7, 7, 7));
             }
         }
-        refused(s, "operation 13", IAE, () -> s.code(0, 13, 0, 7, 7, 7));
-        refused(s, "operation 15", IAE, () -> s.code(0, -1, 0, 7, 7, 7));
+        refused(s, "word -1", IAE, () -> s.code(0, -1, 0, 7, 7, 7));
         due("operation 12", s.code(0, 12, 0, 7, 7, 7), 4);
         due("operation 0", s.code(0, 0, 0, 7, 7, 7), 5);
     }
@@ -288,10 +287,8 @@ public final class ConstantSpreadPromisesBySentence extends SentenceTest {
             ConstantSpread s = known();
             for (int d : new int[] {-1, 6, 7, 8, 15, 16, (1 << 27) - 1, -(1 << 27)}) {
                 int word = w(operation, d);
-                threw("word " + word, IAE, () -> s.code(0, word, 0, 7, 7, 7));
+                refused(s, "word " + word, IAE, () -> s.code(0, word, 0, 7, 7, 7));
             }
-            int word = w(operation, 6);
-            refused(s, "word " + word, IAE, () -> s.code(0, word, 0, 7, 7, 7));
             due("D 0", s.code(0, w(operation, 0), 0, 7, 7, 7), 4);
             due("D 5", s.code(0, w(operation, 5), 0, 7, 7, 7), 5);
         }
@@ -671,11 +668,26 @@ public final class ConstantSpreadPromisesBySentence extends SentenceTest {
         due("ANY of an input", s.number(0, 4, 1), 0);
         due("not come to", s.number(0, 6, 1), 0);
         s.analyse(6);
-        due("a number before this", s.number(1, 0, 0), 8);
-        ret(s, 1, 7);
+        due("a number with a copy", s.number(1, 0, 0), 8);
         s.analyse(0);
         due("ANY again", s.number(1, 0, 0), 0);
-        due("not come to now", s.number(1, 16, 0), 0);
+    }
+
+    @Sentence(of = "Promise 10", says = "0 if it has none.")
+    private static void promise10Has0IfNoMoreComeTo() {
+        ConstantSpread s = program(1);
+        call(s, 0, 0, 1, n(1));
+        call(s, 0, 0, 1, n(2));
+        op(s, 1, SUB, 1, 0, n(2));
+        move(s, 1, 5, n(9));
+        onlyIf(s, 1, 1, 4);
+        ret(s, 1, 7);
+        nil(s, 1);
+        s.analyse(0);
+        due("come to", s.number(1, 4, 5), 9);
+        s.analyse(1);
+        due("come to by the copy alone", s.number(1, 4, 5), 0);
+        due("in the copy", s.number(2, 4, 5), 9);
     }
 
     @Sentence(of = "Promise 10", says = "Exceptions as with kind.")
@@ -793,6 +805,31 @@ public final class ConstantSpreadPromisesBySentence extends SentenceTest {
         due("1500 ENDs more", u.run(false, 3000), 0);
         due("done()", u.done(), 3000);
         due("calls(1)", u.calls(1), 1500);
+    }
+
+    /** As many ENDs as can be: all 3000 statements are calls, and all have come back. */
+    @Sentence(of = "Promise 12", says = "0 after so many statements (0 .. 3000; ENDs do not count),")
+    private static void promise12ThreeThousandEnds() {
+        ConstantSpread s = program(0, 0, 0, 0, 0);
+        int[][] callsOf = {{2, 1}, {3, 1}, {4, 5}, {5, 7}};
+        for (int[] row : callsOf) {
+            callOften(s, 0, row[0], row[1]);
+        }
+        callOften(s, 2, 3, 16);
+        callOften(s, 3, 4, 10);
+        callOften(s, 4, 5, 16);
+        due("3000 calls", s.run(false, 3000), 1);
+        due("done()", s.done(), 3000);
+        nil(s, 0);
+        due("3000 calls, and one more statement", s.run(false, 3000), 0);
+        due("done()", s.done(), 3000);
+        due("calls(5)", s.calls(5), 7 + 16 * (5 + 10 * (1 + 16)));
+    }
+
+    private static void callOften(ConstantSpread s, int function, int called, int times) {
+        for (int i = 0; i < times; i++) {
+            call(s, function, 0, called);
+        }
     }
 
     @Sentence(of = "Promise 12", says = "1 when main has returned,")
@@ -1033,10 +1070,12 @@ public final class ConstantSpreadPromisesBySentence extends SentenceTest {
     private static void promise17TheSameInAll() {
         ConstantSpread s = program(3);
         call(s, 0, 0, 1, n(LEAST), n(1), n(0));
-        call(s, 0, 0, 1, n(LEAST), n(1), n(1));
         call(s, 0, 0, 1, n(LEAST), n(2), n(0));
-        boolean[][] want = {{true, true, true}, {true, true, false}, {true, false, false}};
-        for (int calls : new int[] {3, 1, 2}) {
+        call(s, 0, 0, 1, n(LEAST), n(2), n(1));
+        call(s, 0, 0, 1, n(LEAST), n(2), n(0));
+        boolean[][] want = {{true, true, true}, {true, false, true}, {true, false, false},
+            {true, false, false}};
+        for (int calls : new int[] {4, 1, 3, 2}) {
             s.run(false, calls);
             for (int p = 0; p < 3; p++) {
                 due("same(1, " + p + ") of " + calls, s.same(1, p), want[calls - 1][p]);

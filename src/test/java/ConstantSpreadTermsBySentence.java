@@ -458,7 +458,8 @@ public final class ConstantSpreadTermsBySentence extends SentenceTest {
     private static void theProgramIsACallOfMain() {
         ConstantSpread s = program(0);
         in(s, 0, 0);
-        onlyIf(s, 0, 0, 4);
+        out(s, 0, 5);
+        onlyIf(s, 0, 0, 5);
         out(s, 0, n(1));
         ret(s, 0, n(7));
         call(s, 0, 0, 0);
@@ -470,7 +471,7 @@ public final class ConstantSpreadTermsBySentence extends SentenceTest {
         s.input(1);
         for (int round = 0; round < 2; round++) {
             due("run(false, 99)", s.run(false, 99), 1);
-            outputsAre(s, 1, 7);
+            outputsAre(s, 0, 0, 1, 7);
             due("calls(0)", s.calls(0), 2);
             due("calls(1)", s.calls(1), 0);
         }
@@ -539,6 +540,61 @@ public final class ConstantSpreadTermsBySentence extends SentenceTest {
         notComeTo(s, 2, 0);
     }
 
+    /** In each of twelve functions ANY goes from register to register, one more each time around. */
+    @Sentence(of = "Terms", says = "This is the least that is so")
+    private static void theLeastOfManyRounds() {
+        ConstantSpread s = program(1, 1, 1, 1, 1);
+        in(s, 0, 0);
+        for (int f = 1; f <= 5; f++) {
+            call(s, 0, 0, f, 0);
+        }
+        for (int i = 1; i <= 6; i++) {
+            call(s, 0, 0, i % 5 + 1, n(i));
+        }
+        for (int f = 1; f <= 5; f++) {
+            for (int r = 5; r > 1; r--) {
+                move(s, f, r, r - 1);
+            }
+            in(s, f, 1);
+            for (int i = 5; i < 15; i++) {
+                nil(s, f);
+            }
+            go(s, f, 0);
+        }
+        due("all and six copies", s.analyse(6), 12);
+        for (int f = 1; f < 12; f++) {
+            due("kind(" + f + ", 15, 0)", s.kind(f, 15, 0), f < 6 ? 2 : 1);
+            for (int r = 1; r < 6; r++) {
+                isAny(s, f, 0, r);
+                isAny(s, f, 15, r);
+            }
+            notComeTo(s, f, 16);
+        }
+    }
+
+    /** Many places of each function are left to go on from when the next function is come to. */
+    @Sentence(of = "Terms", says = "This is the least that is so")
+    private static void theLeastOfManyWays() {
+        ConstantSpread s = program(1, 1, 1, 1, 1);
+        for (int f = 0; f < 6; f++) {
+            in(s, f, 0);
+            for (int i = 1; i < 8; i++) {
+                onlyIf(s, f, 0, 16 - i);
+            }
+            call(s, f, 1, f < 5 ? f + 1 : 5, 0);
+            for (int i = 9; i < 16; i++) {
+                ret(s, f, 7);
+            }
+        }
+        due("all are reached", s.analyse(6), 6);
+        for (int f = 0; f < 6; f++) {
+            for (int place = 0; place < 16; place++) {
+                due("kind(" + f + ", " + place + ", 2)", s.kind(f, place, 2), 1);
+            }
+            notComeTo(s, f, 16);
+        }
+    }
+
     @Sentence(of = "Terms", says = "main's first place is come to, all registers 0.")
     private static void mainsFirstPlace() {
         ConstantSpread s = program();
@@ -558,6 +614,16 @@ public final class ConstantSpreadTermsBySentence extends SentenceTest {
         isAny(s, 0, 0, 0);
         isAny(s, 0, 0, 5);
         has(s, 0, 0, 4, 0);
+        ConstantSpread t = program();
+        for (int r = 0; r < 6; r++) {
+            op(t, 0, r < 3 ? MOVE : IN, r, n(9), 7);
+        }
+        for (int round = 0; round < 2; round++) {
+            t.analyse(0);
+            for (int r = 0; r < 6; r++) {
+                has(t, 0, 0, r, 0);
+            }
+        }
     }
 
     @Sentence(of = "Terms", says = "A statement that is come to goes on to the next place (not GO, RETURN),"
@@ -796,6 +862,10 @@ public final class ConstantSpreadTermsBySentence extends SentenceTest {
         notComeTo(t, 2, 0);
         has(t, 3, 0, 1, 8);
         isAny(t, 3, 0, 2);
+        t.table(3);
+        t.table(2);
+        due("all of a full table", t.analyse(0), 4);
+        has(t, 2, 0, 0, 7);
     }
 
     @Sentence(of = "Terms", says = "(An operand that is a number has it.)")
@@ -837,7 +907,8 @@ public final class ConstantSpreadTermsBySentence extends SentenceTest {
         ConstantSpread s = program(1);
         s.table(1);
         tableCall(s, 0, 0, n(0), n(1));
-        tableCall(s, 0, 0, n(0), n(2));
+        // Register 1 has 0, and so this is not a call of function 1 by its X.
+        tableCall(s, 0, 0, 1, n(2));
         ret(s, 0, 7);
         call(s, 0, 0, 1, n(3));
         s.analyse(6);
@@ -850,6 +921,42 @@ public final class ConstantSpreadTermsBySentence extends SentenceTest {
         t.analyse(6);
         due("a CALL beside a TABLE CALL", t.functions(), 3);
         field(t, 0, 1, X, 2);
+    }
+
+    /** What stands behind main's 16 statements is another function's, not main's. */
+    @Sentence(of = "Terms", says = "A SPECIAL CALL is a CALL that is come to,")
+    private static void noCallStandsAtTheEndOf16() {
+        ConstantSpread s = program(1, 1);
+        s.table(2);
+        in(s, 0, 0);
+        tableCall(s, 0, 0, n(0), 0);
+        call(s, 0, 0, 1, 0);
+        for (int i = 3; i < 15; i++) {
+            nil(s, 0);
+        }
+        call(s, 1, 0, 2, 3);
+        in(s, 1, 3);
+        onlyIf(s, 1, 3, 0);
+        nil(s, 0);
+        s.analyse(6);
+        isAny(s, 2, 0, 0);
+        has(s, 0, 16, 3, 0);
+        isAny(s, 1, 0, 3);
+        due("no call is special", s.functions(), 3);
+        ConstantSpread t = program(1, 1);
+        in(t, 0, 0);
+        call(t, 0, 0, 1, 0);
+        call(t, 0, 0, 2, n(0));
+        for (int i = 3; i < 16; i++) {
+            nil(t, 0);
+        }
+        call(t, 1, 0, 2, 3);
+        in(t, 1, 3);
+        onlyIf(t, 1, 3, 0);
+        t.analyse(6);
+        due("main's call of 2 is", t.functions(), 4);
+        field(t, 0, 2, X, 3);
+        field(t, 1, 0, X, 2);
     }
 
     @Sentence(of = "Terms", says = "of a function but main,")
@@ -1017,6 +1124,31 @@ public final class ConstantSpreadTermsBySentence extends SentenceTest {
         has(s, 4, 0, 0, 1);
     }
 
+    @Sentence(of = "Terms", says = "in which the same operands have numbers, and the same ones,")
+    private static void eachOfThreeParametersCounts() {
+        ConstantSpread s = program(3);
+        in(s, 0, 0);
+        in(s, 0, 4);
+        call(s, 0, 1, 1, n(1), n(2), n(3));
+        call(s, 0, 2, 1, n(1), n(2), n(3));
+        nil(s, 0);
+        call(s, 0, 3, 1, n(4), n(2), n(3));
+        call(s, 0, 3, 1, n(1), n(4), n(3));
+        call(s, 0, 3, 1, n(1), n(2), n(4));
+        call(s, 0, 3, 1, 0, n(2), n(3));
+        call(s, 0, 3, 1, n(1), 0, n(3));
+        call(s, 0, 3, 1, n(1), n(2), 0);
+        call(s, 0, 4, 1, n(1), n(2), n(3));
+        out(s, 0, 1);
+        s.analyse(1);
+        int[] goesTo = {0, 0, 2, 2, 0, 1, 1, 1, 1, 1, 1, 2};
+        for (int i = 0; i < goesTo.length; i++) {
+            if (goesTo[i] != 0) {
+                field(s, 0, i, X, goesTo[i]);
+            }
+        }
+    }
+
     @Sentence(of = "Terms", says = "and all that is known is made anew.")
     private static void allIsMadeAnew() {
         ConstantSpread s = program(1, 1);
@@ -1151,6 +1283,16 @@ public final class ConstantSpreadTermsBySentence extends SentenceTest {
                 s.analyse(0);
                 fields(s, 0, 1, CALL, 4, (x & 1) == 0 ? 2 : 1, n(9), n(0), n(x));
             }
+        }
+        int[][] ofThree = {{0, 1}, {2, 3}, {3, 1}, {-1, 3}, {-2, 2}, {-3, 1}, {LEAST, 3}, {MOST, 1}};
+        for (int[] row : ofThree) {
+            ConstantSpread s = program(0, 0, 0);
+            s.table(1);
+            s.table(2);
+            s.table(3);
+            tableCall(s, 0, 4, n(row[0]));
+            s.analyse(0);
+            fields(s, 0, 0, CALL, 4, row[1]);
         }
         ConstantSpread t = program(0);
         in(t, 0, 0);
