@@ -202,7 +202,11 @@ abstract class SentenceTest {
             }
         }
         current = "the document";
-        lookAtDocument(methods, headings);
+        if (Files.exists(DOCUMENT)) {
+            lookAtDocument(methods, headings);
+        } else {
+            System.out.println(DOCUMENT + " is not there: whether all its words have a test was not seen");
+        }
         System.out.println(wrong == 0 ? "all answers are as due" : wrong + " answers are not as due");
         if (wrong != 0) {
             System.exit(1);
